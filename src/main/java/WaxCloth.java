@@ -593,13 +593,6 @@ public final class WaxCloth {
             return squares > 0;
         }
 
-        void clear() {
-            squares = 0;
-            dyes = 0;
-            stencils = 0;
-            doings = 0;
-        }
-
         void become(Cloth other) {
             squares = other.squares;
             dyes = other.dyes;
@@ -766,7 +759,10 @@ public final class WaxCloth {
         }
     }
 
-    /** Reads a TAPE into a CLOTH of its own, so that a FAULT leaves the CLOTH that stands as it is. */
+    /**
+     * Reads a TAPE into a CLOTH of its own, so that a FAULT leaves the CLOTH that stands as it is.
+     * Nothing is ever done to that one: it stays white, without WAX and DOINGS.
+     */
     private static final class Reader {
         private static final int NO_FIGURE = -1;
 
@@ -781,7 +777,6 @@ public final class WaxCloth {
 
         boolean read() {
             place = 0;
-            result.clear();
             return sign('w') && readSquares() && readDyes() && readStencils();
         }
 
@@ -829,7 +824,6 @@ public final class WaxCloth {
             }
             result.kindOf[square] = kind;
             result.wished[square] = hue;
-            result.states[square] = State.WHITE;
             return true;
         }
 

@@ -180,6 +180,13 @@ public final class DoingsTest {
         for (int what = 0; what <= 8; what++) {
             Due.due("count " + what, x.count(what), due[what]);
         }
+        x.does(0);
+        Due.due("one layer is WAX", x.square(1, 2), 1);
+        Due.due("with WAX", x.count(5), 6);
+        x.does(0);
+        Due.due("no layer is none", x.count(5), 0);
+        x.does(11);
+        Due.due("the first SQUARE", x.count(5), 1);
         Due.due("count 9", x.count(9), WaxCloth.BAD);
         Due.due("count -1", x.count(-1), WaxCloth.BAD);
         WaxCloth none = new WaxCloth();

@@ -34,6 +34,9 @@ public final class ForetoldTest {
         plan("WAX, then a BATH", Due.withCloth("wc0,c1;100;0"), 4, 2, 10, 0);
         plan("WAX between BATHS", Due.withCloth("wc1,c3;100,010;0"), 4, 2, 0, 10, 1);
         plan("too short for that", Due.withCloth("wc1,c3;100,010;0"), 2, 1, 0);
+        WaxCloth x = Due.withCloth("wc1,c3;100,010;0");
+        plan("a longer one", x, 3, 2, 0, 10, 1);
+        plan("none behind a longer one", x, 0, 0);
     }
 
     private static void plansOfTheFirstRow() {

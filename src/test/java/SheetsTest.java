@@ -308,6 +308,9 @@ public final class SheetsTest {
         Due.longs(x, 1, 0, 3, 2);
         Due.due("all alike: the least", x.kinds(1, 3, 0, 1, 3), 1);
         Due.due("two alike at most: the least", x.kinds(1, 3, 0, 1, 9), 1);
+        Due.longs(x, 1, 0, 3, 4);
+        Due.due("SILK alone", x.kinds(1, 3, 0, 1, -1), 8);
+        Due.due("SILK alone: the least", x.kinds(1, 3, 0, 1, 0), 1);
         Due.longs(x, 1, 0, 3, 5);
         Due.due("no KIND", x.kinds(1, 3, 0, 1, -1), 0);
         Due.due("no KIND to try", x.kinds(1, 3, 0, 1, 0), WaxCloth.NONE);

@@ -76,6 +76,11 @@ public final class TapeTest {
         fault("cc0;000;0", 0);
         fault("w;000;0", 1);
         fault("wx0;000;0", 1);
+        fault("w000;0", 1);
+        fault("wc;000;0", 2);
+        fault("wc,c0;000;0", 2);
+        fault("wc0,c0,c0,c0,c0;4", 16);
+        fault("wc0,c0,c0,c0,c0;000,4", 20);
         fault("wC0;000;0", 1);
         fault("wc8;000;0", 2);
         fault("wc/;000;0", 2);

@@ -118,6 +118,9 @@ public final class ToldTest {
         for (int s = 0; s < 5; s++) {
             Due.due("under WAX " + s, x.takes(s, 1, 0), 0);
         }
+        x.does(0);
+        Due.due("one layer on SILK", x.square(2, 2), 1);
+        Due.due("under one layer", x.takes(2, 1, 0), 0);
     }
 
     private static void wrongNumbers() {
