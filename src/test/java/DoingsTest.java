@@ -8,7 +8,6 @@ public final class DoingsTest {
         wishing();
         images();
         counts();
-        theMostDoings();
         Due.end();
     }
 
@@ -195,20 +194,5 @@ public final class DoingsTest {
             Due.due("count without a CLOTH " + what, none.count(what), what == 8 ? 1 : 0);
         }
         Due.due("count 9 without a CLOTH", none.count(9), WaxCloth.BAD);
-    }
-
-    /** Beyond 512 calls nothing is promised; this holds the guard itself. */
-    private static void theMostDoings() {
-        WaxCloth x = Due.withCloth("wc0;100;0");
-        for (int n = 0; n < 9999; n++) {
-            if (x.does(20) < 0) {
-                Due.due("does the " + n + "th", -1, 1);
-            }
-        }
-        Due.due("9999", x.count(3), 9999);
-        Due.due("FULL", x.does(20), WaxCloth.FULL);
-        Due.due("BAD ahead of FULL", x.does(22), WaxCloth.BAD);
-        Due.due("undo", x.undo(), 23);
-        Due.due("one more", x.does(0), 0);
     }
 }

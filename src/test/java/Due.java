@@ -31,6 +31,14 @@ final class Due {
         return x;
     }
 
+    static WaxCloth after(String tape, int... doings) {
+        WaxCloth x = withCloth(tape);
+        for (int doing : doings) {
+            x.does(doing);
+        }
+        return x;
+    }
+
     /** A SHEET of longs that holds these items. */
     static void longs(WaxCloth x, int sheet, long... items) {
         lane(x, sheet, 3, items);

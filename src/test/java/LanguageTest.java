@@ -7,6 +7,7 @@ import java.nio.file.Files;
 import java.nio.file.Path;
 import java.util.HashSet;
 import java.util.List;
+import java.util.Map;
 import java.util.Set;
 import java.util.TreeSet;
 import java.util.regex.Matcher;
@@ -22,9 +23,10 @@ public final class LanguageTest {
         "int drop(int)", "long item(int,int,int,long)", "int copy(int,int,int,int,int)", "int log(int,int,int)",
         "int ahead(int,int,int,int,int,int)", "int round(int,int,int,int,int)", "int kinds(int,int,int,int,int)",
         "int wishes(int,int,int)", "int count(int)");
-    private static final Set<String> CONSTANTS = Set.of("BAD", "NOT", "FULL", "NONE", "NULL", "CAST", "INDEX", "SIZE");
+    private static final Map<String, Integer> CONSTANTS = Map.of("BAD", -1, "NOT", -2, "FULL", -3, "NONE", -4,
+        "NULL", -11, "CAST", -12, "INDEX", -13, "SIZE", -14);
 
-    public static void main(String[] args) throws IOException {
+    public static void main(String[] args) throws IOException, IllegalAccessException {
         face();
         classes();
         words(code());
@@ -33,7 +35,7 @@ public final class LanguageTest {
         Due.end();
     }
 
-    private static void face() {
+    private static void face() throws IllegalAccessException {
         Set<String> open = new TreeSet<>();
         Set<String> names = new HashSet<>();
         for (Method m : WaxCloth.class.getDeclaredMethods()) {
@@ -57,8 +59,11 @@ public final class LanguageTest {
         }
         int constants = 0;
         for (Field f : WaxCloth.class.getDeclaredFields()) {
-            boolean told = CONSTANTS.contains(f.getName());
-            constants += told ? 1 : 0;
+            boolean told = CONSTANTS.containsKey(f.getName());
+            if (told) {
+                constants++;
+                Due.due("constant " + f, f.getInt(null), CONSTANTS.get(f.getName()));
+            }
             holds("open or not as told: " + f, told ? Modifier.isPublic(f.getModifiers()) : Modifier.isPrivate(f.getModifiers()));
         }
         Due.due("constants of the face", constants, CONSTANTS.size());

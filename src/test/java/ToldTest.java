@@ -51,11 +51,7 @@ public final class ToldTest {
     }
 
     private static int hueOf(String tape, int... doings) {
-        WaxCloth x = Due.withCloth(tape);
-        for (int doing : doings) {
-            x.does(doing);
-        }
-        return x.square(0, 3);
+        return Due.after(tape, doings).square(0, 3);
     }
 
     private static void kindsOverOneAnother() {
