@@ -9,6 +9,7 @@ import java.util.HashSet;
 import java.util.List;
 import java.util.Map;
 import java.util.Set;
+import java.util.TreeMap;
 import java.util.TreeSet;
 import java.util.regex.Matcher;
 import java.util.regex.Pattern;
@@ -26,11 +27,16 @@ public final class LanguageTest {
     private static final Map<String, Integer> CONSTANTS = Map.of("BAD", -1, "NOT", -2, "FULL", -3, "NONE", -4,
         "NULL", -11, "CAST", -12, "INDEX", -13, "SIZE", -14);
 
+    /** What the class uses of what rule 4 leaves. */
+    private static final Set<String> LIBRARY = Set.of("System.arraycopy", "Math.max", "Math.min", "Integer.bitCount");
+
     public static void main(String[] args) throws IOException, IllegalAccessException {
         face();
         classes();
         words(code());
+        library(code());
         lengths(code());
+        depths(code());
         newOnlyWhenMade(code());
         Due.end();
     }
@@ -97,7 +103,7 @@ public final class LanguageTest {
     }
 
     private static void words(String code) {
-        String[] ruledOut = {"throw", "throws", "try", "catch", "synchronized", "assert", "package", "->", "::",
+        String[] ruledOut = {"throw", "throws", "try", "catch", "synchronized", "assert", "package", "import", "static \\{", "->", "::",
             "\\w+Exact", "hashCode", "System\\.(?!arraycopy)", "Thread", "Random"};
         for (String word : ruledOut) {
             String pattern = Character.isLetter(word.charAt(0)) && word.matches("\\w+") ? "\\b" + word + "\\b" : word;
@@ -110,16 +116,56 @@ public final class LanguageTest {
         }
     }
 
-    private static void lengths(String code) {
+    private static void library(String code) {
+        Set<String> own = new HashSet<>();
+        for (Class<?> inside : WaxCloth.class.getDeclaredClasses()) {
+            own.add(inside.getSimpleName());
+        }
+        for (Matcher call = Pattern.compile("\\b([A-Z]\\w*)\\.(\\w+)\\(").matcher(code); call.find();) {
+            holds("of the library: " + call.group(), own.contains(call.group(1)) || LIBRARY.contains(call.group(1) + "." + call.group(2)));
+        }
+    }
+
+    /** Each method's head and, as its value, its body. */
+    private static Map<String, String> methods(String code) {
+        Map<String, String> all = new TreeMap<>();
         Matcher method = Pattern.compile("(?m)^( {4}| {8})\\w[^;={]*\\([^;{]*\\) \\{$").matcher(code);
-        int methods = 0;
         while (method.find()) {
             int end = code.indexOf("\n" + method.group(1) + "}", method.end());
-            long lines = code.substring(method.start(), end).lines().count();
-            holds("sixty lines at most: " + method.group().trim(), lines <= 60);
-            methods++;
+            all.merge(method.group().trim(), code.substring(method.end(), end), String::concat);
         }
-        holds("methods were found", methods > FACE.size());
+        return all;
+    }
+
+    private static void lengths(String code) {
+        Map<String, String> methods = methods(code);
+        for (String head : methods.keySet()) {
+            holds("sixty lines at most: " + head, methods.get(head).lines().count() <= 60);
+        }
+        holds("methods were found", methods.size() > FACE.size());
+    }
+
+    /** Methods of the same name count as one, which makes no way shorter. */
+    private static void depths(String code) {
+        Map<String, String> bodies = new TreeMap<>();
+        methods(code).forEach((head, body) -> bodies.merge(head.replaceAll("\\(.*", "").replaceAll(".* ", ""), body, String::concat));
+        for (String name : bodies.keySet()) {
+            int depth = depth(bodies, name, new HashSet<>());
+            holds("eight deep at most: " + name + " " + depth, depth <= 8);
+        }
+        holds("plan goes some way down", depth(bodies, "plan", new HashSet<>()) > 4);
+    }
+
+    private static int depth(Map<String, String> bodies, String name, Set<String> open) {
+        int deepest = 0;
+        open.add(name);
+        for (Matcher call = Pattern.compile("\\b(\\w+)\\(").matcher(bodies.get(name)); call.find();) {
+            if (bodies.containsKey(call.group(1)) && !open.contains(call.group(1))) {
+                deepest = Math.max(deepest, depth(bodies, call.group(1), open));
+            }
+        }
+        open.remove(name);
+        return 1 + deepest;
     }
 
     /** Rows stand in fields or come from the constructor, so that no call makes anything. */

@@ -108,7 +108,7 @@ final class Model {
         }
     }
 
-    private static int take(String kind, int bath, int has) {
+    static int take(String kind, int bath, int has) {
         switch (kind) {
             case "COTTON": return bath;
             case "LINEN": return Math.min(2, take("COTTON", bath, has));
@@ -130,7 +130,7 @@ final class Model {
         }
     }
 
-    private static final List<String> KINDS = List.of("STUFF", "COTTON", "LINEN", "SILK", "WOOL", "FELT");
+    static final List<String> KINDS = List.of("STUFF", "COTTON", "LINEN", "SILK", "WOOL", "FELT");
     private static final String LETTERS = " clswf";
 
     private String tape = "";
@@ -179,6 +179,15 @@ final class Model {
 
     private static boolean bad(boolean is) {
         return is;
+    }
+
+    /** How many items a SHEET has; below 0: it is nothing. */
+    int itemsOf(int sheet) {
+        return rows[sheet] == null ? -1 : rows[sheet].length;
+    }
+
+    int laneOf(int sheet) {
+        return lanes[sheet];
     }
 
     private boolean squareIs(int square) {

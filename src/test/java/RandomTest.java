@@ -18,6 +18,7 @@ public final class RandomTest {
     private static final int[] DOINGS = {0, 21, 10, 20, 1, 2, 3, 11, 12};
 
     private static Random random;
+    private static int calls;
 
     public static void main(String[] args) {
         for (int run = 0; run < RUNS; run++) {
@@ -30,11 +31,11 @@ public final class RandomTest {
     private static void oneRun(int run) {
         WaxCloth x = new WaxCloth();
         Model model = new Model();
-        int calls = 0;
+        calls = 0;
         int plans = 0;
         while (calls < CALLS) {
             if (calls == 0 ? run % 16 > 0 : random.nextInt(150) == 0) {
-                calls += both(run, x, model, tape());
+                both(run, x, model, tape());
             }
             int n = random.nextInt(4) == 0 ? 5 : random.nextInt(NAMES.length);
             long[] arguments = arguments(n);
@@ -43,35 +44,37 @@ public final class RandomTest {
             }
             one(run, x, model, NAMES[n], arguments);
             if (NAMES[n].equals("sheet") && arguments[2] <= 24 && random.nextInt(3) > 0) {
-                calls += fill(run, x, model, arguments);
+                fill(run, x, model, arguments);
             }
-            calls++;
         }
     }
 
+    /** What is called behind the last call that is promised is left out. */
     private static void one(int run, WaxCloth x, Model model, String name, long... arguments) {
+        if (calls == CALLS) {
+            return;
+        }
+        calls++;
         long want = model.call(name, arguments);
         long got = Calls.call(x, name, arguments);
         Due.due(want == got ? name : "run " + run + ": " + name + Arrays.toString(arguments), got, want);
     }
 
-    private static int both(int run, WaxCloth x, Model model, String tape) {
+    private static void both(int run, WaxCloth x, Model model, String tape) {
         for (char c : tape.toCharArray()) {
             one(run, x, model, "feed", c);
         }
         one(run, x, model, "cloth");
-        return tape.length() + 1;
     }
 
     /** Items that calls can make something of: DOINGS, triples, HUES. */
-    private static int fill(int run, WaxCloth x, Model model, long[] sheet) {
+    private static void fill(int run, WaxCloth x, Model model, long[] sheet) {
         boolean triples = random.nextBoolean();
         int likely = random.nextBoolean() ? 5 : DOINGS.length;
         for (int i = 0; i < sheet[2]; i++) {
             long v = triples ? random.nextInt(i % 3 == 0 ? 10 : 4) : DOINGS[random.nextInt(likely)];
             one(run, x, model, "item", sheet[0], sheet[1], i, v);
         }
-        return Math.max(0, (int) sheet[2]);
     }
 
     private static String tape() {
